@@ -1,0 +1,61 @@
+/** What the tests share: rows of due answers, and slips and texts told in one go. */
+final class Check {
+    static final String SIGNS = "<>+-.!?()wnlea";
+    private final String test;
+    private int wrong = 0;
+    private int rows = 0;
+
+    Check(String test) {
+        this.test = test;
+    }
+
+    void due(String what, long got, long want) {
+        rows++;
+        if (got != want) {
+            wrong++;
+            System.out.println(test + ": " + what + " answered " + got + ", due is " + want);
+        }
+    }
+
+    void end() {
+        System.out.println(test + ": " + rows + " rows, " + wrong + " wrong");
+        if (wrong != 0) {
+            System.exit(1);
+        }
+    }
+
+    static void slip(ClaySlips x, int man, String signs) {
+        for (char c : signs.toCharArray()) {
+            x.write(man, SIGNS.indexOf(c));
+        }
+    }
+
+    static void text(ClaySlips x, String text) {
+        for (char c : text.toCharArray()) {
+            x.type(c, 1);
+        }
+    }
+
+    static ClaySlips told(String text) {
+        ClaySlips x = new ClaySlips();
+        text(x, text);
+        int items = x.read();
+        if (items < 0) {
+            throw new IllegalArgumentException(text + ": " + items);
+        }
+        x.clear();
+        return x;
+    }
+
+    static int reads(String text) {
+        ClaySlips x = new ClaySlips();
+        text(x, text);
+        return x.read();
+    }
+
+    static void steps(ClaySlips x, int n) {
+        for (int i = 0; i < n; i++) {
+            x.step();
+        }
+    }
+}
