@@ -922,7 +922,7 @@ public final class ClaySlips {
 
         private boolean expect(boolean mayStand) {
             if (!mayStand) {
-                flaw = token == END ? length : tokenStart;
+                flaw = tokenStart;
                 return false;
             }
             advanceToken();
@@ -977,6 +977,7 @@ public final class ClaySlips {
             return value;
         }
 
+        /** The end is a token that starts where the text's length is. */
         private void advanceToken() {
             int at = tokenEnd;
             while (at < length && bytes[at] == ' ') {

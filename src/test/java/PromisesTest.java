@@ -421,6 +421,9 @@ public final class PromisesTest {
         y.step();
         due("11 strong is full", y.of(0, 1), 20);
         due("11 strong is full", y.in(0), 0);
+        ClaySlips z = Check.told("street 2;water 0 20;man 4 0;slip 0\"+\";");
+        z.step();
+        due("11 greedy takes all", z.of(0, 1), 20);
     }
 
     private static void undo() {
@@ -594,6 +597,12 @@ public final class PromisesTest {
         due("18 place one less", y.rubbed(0, 0), 1);
         due("18 his own place", y.rubbed(0, 1), 2);
         due("18 above", y.rubbed(0, 2), 2);
+        ClaySlips w = Check.told("street 2;water 0 1;man 0 0;man 0 0;slip 0 \"+\";slip 1 \".+\";");
+        due("18 the other has it", w.rubbed(0, 0), 2);
+        ClaySlips v = Check.told("street 2;man 0 0;man 0 1;slip 0 \".(a.)\";");
+        due("18 never, with it and without it", v.rubbed(0, 0), 3);
+        ClaySlips u = Check.told("street 2;man 0 0;slip 0 \"?\";man 0 1;slip 1\".\";");
+        due("18 all stop without it alone", u.rubbed(0, 0), 2);
         ClaySlips z = Check.told("street 3;man 0 1;slip 0 \"?\";");
         due("18 empty then", z.rubbed(0, 0), 2);
     }
@@ -667,11 +676,9 @@ public final class PromisesTest {
         due("21 one", x.shortest(0, 0, 2, 0), 2);
         due("21 one", x.shortest(0, 0, 2, 1), -5);
         due("21 far", x.shortest(0, 2, 1, NONE), 4);
-        int[] far = {1, 1, 2, 3};
         int[] signs = {2, 1, 1, 3};
         for (int i = 0; i < 4; i++) {
             due("21 sign", x.shortest(0, 2, 1, i), signs[i]);
-            due("21 no water there", far.length, 4);
         }
         due("21 no more", x.shortest(0, 2, 1, 4), -5);
         due("21 no more", x.shortest(0, 2, 1, Integer.MAX_VALUE), -5);
@@ -683,6 +690,10 @@ public final class PromisesTest {
             due("21 bad", x.shortest(b[0], b[1], b[2], b[3]), -10);
         }
         due("21 counts as bad", x.status(0), 7);
+        ClaySlips five = Check.told("street 3;water 0 3;man 1 0;");
+        due("21 five", five.shortest(0, 2, 2, NONE), 5);
+        due("21 the fifth", five.shortest(0, 2, 2, 4), 3);
+        due("21 six are too long", x.shortest(0, 2, 2, NONE), NONE);
         ClaySlips y = Check.told("street 3;water 0 3;man 0 0;slip 0 \"+\";");
         Check.steps(y, 2);
         due("21 he goes anew", y.shortest(0, 1, 1, NONE), 2);
