@@ -17,6 +17,14 @@ final class Check {
         }
     }
 
+    /** A man's cell, load, place and whether he has stopped. */
+    void man(String what, ClaySlips x, int man, int... want) {
+        String[] parts = {"cell", "load", "place", "stopped"};
+        for (int k = 0; k < want.length; k++) {
+            due(what + ", " + parts[k] + " of " + man, x.of(man, k), want[k]);
+        }
+    }
+
     void end() {
         System.out.println(test + ": " + rows + " rows, " + wrong + " wrong");
         if (wrong != 0) {
@@ -47,6 +55,13 @@ final class Check {
         return x;
     }
 
+    /** A street as told, some steps on. */
+    static ClaySlips after(int steps, String text) {
+        ClaySlips x = told(text);
+        steps(x, steps);
+        return x;
+    }
+
     static int reads(String text) {
         ClaySlips x = new ClaySlips();
         text(x, text);
@@ -57,5 +72,9 @@ final class Check {
         for (int i = 0; i < n; i++) {
             x.step();
         }
+    }
+
+    static String many(int n, String part) {
+        return part.repeat(n);
     }
 }
