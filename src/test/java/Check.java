@@ -38,9 +38,15 @@ final class Check {
         }
     }
 
+    /** Eight bytes a call, so that many calls are left. */
     static void text(ClaySlips x, String text) {
-        for (char c : text.toCharArray()) {
-            x.type(c, 1);
+        for (int at = 0; at < text.length(); at += 8) {
+            int end = Math.min(at + 8, text.length());
+            long v = 0;
+            for (int k = at; k < end; k++) {
+                v = v << 8 | text.charAt(k);
+            }
+            x.type(v, end - at);
         }
     }
 
@@ -72,9 +78,5 @@ final class Check {
         for (int i = 0; i < n; i++) {
             x.step();
         }
-    }
-
-    static String many(int n, String part) {
-        return part.repeat(n);
     }
 }

@@ -1,6 +1,6 @@
 /** Part 1 of the document: each sentence that names a bound, tried at the bound and beyond it. */
 public final class StreetBoundsTest {
-    private static final int NONE = -1, BAD = -2, NO = -3, FULL = -4;
+    private static final int NONE = -1, BAD = -2, FULL = -4;
     private static final Check check = new Check("StreetBoundsTest");
 
     private static void due(String what, long got, long want) {
@@ -336,7 +336,7 @@ public final class StreetBoundsTest {
                 int water = k % 2;
                 int load = k / 2;
                 String text = "street 2;water 0 " + (water + load) + ";water 1 9;man 0 0;slip 0\"";
-                ClaySlips x = Check.after(load + 1, text + Check.many(load, "+") + "(" + questions[q] + "..)\";");
+                ClaySlips x = Check.after(load + 1, text + "+".repeat(load) + "(" + questions[q] + "..)\";");
                 int want = load + (in[q][k] == 1 ? 2 : 5);
                 check.man(questions[q] + " by water " + water + " and load " + load, x, 0, 0, load, want, 0);
             }
@@ -404,7 +404,7 @@ public final class StreetBoundsTest {
         due(") once too often", faultOf("(a.))"), 4);
         due("the first of two", faultOf("(a.))w"), 4);
         due("a sign that can not stand goes ahead of what lacks", faultOf("(a(.w"), 3);
-        due("the last of 24", faultOf(Check.many(23, ".") + ")"), 23);
+        due("the last of 24", faultOf(".".repeat(23) + ")"), 23);
     }
 
     /** ".. (its length: something lacks)". */
@@ -414,8 +414,8 @@ public final class StreetBoundsTest {
         due(") lacks", faultOf("(a"), 2);
         due(") lacks", faultOf("(a."), 3);
         due("one ) of two lacks", faultOf("(a(w.)"), 6);
-        due("24 signs, ( last", faultOf(Check.many(23, ".") + "("), 24);
-        due("24 signs, ) lacks", faultOf("(a" + Check.many(22, ".")), 24);
+        due("24 signs, ( last", faultOf(".".repeat(23) + "("), 24);
+        due("24 signs, ) lacks", faultOf("(a" + ".".repeat(22)), 24);
     }
 
     /** ".. none (an empty one, too)". */
@@ -425,8 +425,8 @@ public final class StreetBoundsTest {
             due("one sign " + c, faultOf("" + c), NONE);
         }
         due("loop", faultOf("(w.)"), NONE);
-        due("24 signs", faultOf("(a" + Check.many(21, ".") + ")"), NONE);
-        due("eight loops", faultOf(Check.many(8, "(n)")), NONE);
+        due("24 signs", faultOf("(a" + ".".repeat(21) + ")"), NONE);
+        due("eight loops", faultOf("(n)".repeat(8)), NONE);
     }
 
     /** "A MAN with .. a FAULT has stopped"; "he has not stopped any more, if there is no FAULT". */
@@ -581,7 +581,7 @@ public final class StreetBoundsTest {
 
     /** "5 PIOUS: as LAME, and + and - are as . in every seventh STEP (numbers 6, 13, ..)". */
     private static void pious() {
-        ClaySlips x = Check.told("street 2;water 0 20;man 5 0;slip 0\"" + Check.many(20, "+") + "\";");
+        ClaySlips x = Check.told("street 2;water 0 20;man 5 0;slip 0\"" + "+".repeat(20) + "\";");
         int load = 0;
         for (int step = 0; step < 20; step++) {
             x.step();
@@ -589,7 +589,7 @@ public final class StreetBoundsTest {
             check.man("+ behind step " + step, x, 0, 0, load, step + 1, 0);
         }
         ClaySlips y = Check.told("street 2;water 0 20;man 5 0;");
-        Check.slip(y, 0, Check.many(12, "+") + Check.many(10, "-"));
+        Check.slip(y, 0, "+".repeat(12) + "-".repeat(10));
         Check.steps(y, 12);
         int left = y.of(0, 1);
         due("11 of 12", left, 11);
