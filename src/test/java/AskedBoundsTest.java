@@ -15,6 +15,8 @@ public final class AskedBoundsTest {
         runBounds();
         stopsFirst();
         stopsLast();
+        stopsInRounds();
+        askedAnew();
         againFirst();
         againLast();
         againNeeds();
@@ -112,6 +114,72 @@ public final class AskedBoundsTest {
         x.undo();
         due("401 anew", x.stops(), NONE);
         due("none is no BAD", x.status(0), 0);
+    }
+
+    /** Rounds of 14 steps that leave but one thing changed: they end all the same. */
+    private static void stopsInRounds() {
+        ClaySlips cell = Check.told("street 9;water 8 1;man 0 0;slip 0\"(n>" + ".".repeat(11) + ")\";");
+        due("cell by cell", cell.stops(), 8 * 14 + 2);
+        ClaySlips water = Check.told("street 9;water 7 20;water 8 1;man 0 7;slip 0\"(w+>-<" + ".".repeat(8) + ")\";");
+        due("water by water, the last one not put", water.stops(), 20 * 14 + 2);
+        water.water(7, 19);
+        due("water by water", water.stops(), 19 * 14 + 2);
+        ClaySlips load = Check.told("street 2;water 0 5;man 4 0;man 0 0;slip 0\"+\";");
+        load.step();
+        load.rub(0);
+        Check.slip(load, 0, "(l-" + ".".repeat(11) + ")");
+        Check.slip(load, 1, "(a+" + ".".repeat(11) + ")");
+        due("load by load, the other for ever", load.stops(), NONE);
+        load.rub(1);
+        Check.slip(load, 1, "(w.)" + "+" + ".".repeat(17));
+        due("load by load", load.stops(), 5 * 14 + 2);
+        due("place by place", Check.told("street 9;man 0 8;slip 0\"" + ".".repeat(24) + "\";").stops(), 25);
+        due("nine cells for ever", Check.told("street 9;water 8 20;man 0 8;slip 0\"(a)\";").stops(), NONE);
+        ClaySlips late = Check.told("street 9;water 0 20;man 0 0;man 0 8;slip 0\"(w+............)\";slip 1\"?\";");
+        due("one waits for ever", late.stops(), NONE);
+        late.rub(1);
+        due("twenty rounds", late.stops(), 20 * 15 + 2);
+    }
+
+    /** Asked behind other streets, and on streets that no text told. */
+    private static void askedAnew() {
+        ClaySlips x = Check.told("street 9;water 8 5;man 4 8;man 4 8;man 4 7;slip 0\"(a+-)\";slip 1\"(a<>)\";slip 2\"?\";");
+        due("of three", x.again(0) > 0 ? 1 : 0, 1);
+        due("of three", x.stops(), NONE);
+        x.street(3);
+        comesAgain("of nobody", x, 14, 0);
+        due("of nobody", x.stops(), 0);
+        due("of nobody", x.run(400, 0, 1), 0);
+        x.water(0, 3);
+        x.man(0, 0);
+        due("shortest", x.shortest(0, 0, 2, 0), 2);
+        due("emptied", x.emptied(4, 0, NONE), 3);
+        ClaySlips y = Check.told("street 9;water 8 5;man 4 8;slip 0\"(a+-)\";");
+        y.street(3);
+        y.water(0, 3);
+        y.man(0, 0);
+        due("thief of an empty slip", y.thief(0, 0), 0);
+        y.write(0, 2);
+        due("thief", y.thief(0, 0), 1);
+        ClaySlips z = new ClaySlips();
+        z.man(0, 0);
+        z.water(0, 3);
+        z.write(0, 2);
+        due("thief, no text told", z.thief(0, 0), 1);
+        ClaySlips w = new ClaySlips();
+        w.water(0, 3);
+        w.man(0, 0);
+        due("shortest, no text told", w.shortest(0, 0, 2, 0), 2);
+        ClaySlips v = new ClaySlips();
+        v.water(5, 3);
+        v.man(0, 5);
+        v.man(0, 5);
+        v.write(1, 2);
+        due("emptied, no text told", v.emptied(1, 5, NONE), 2);
+        due("rubbed, no text told", v.rubbed(1, 0), 2);
+        due("danger, no text told", v.danger(1), 1);
+        due("stops, no text told", v.stops(), 2);
+        due("run, no text told", v.run(1, 5, 0), 2);
     }
 
     /** "the least t (1 .. ": with nobody the STEPS' number alone must come again. */
@@ -316,6 +384,8 @@ public final class AskedBoundsTest {
         due("!", lame.thief(0, 0), 5);
         ClaySlips x = Check.told("street 3;water 0 3;man 0 0;slip 0\"+" + ".".repeat(20) + ">\";");
         due("the last place of 22", x.thief(0, 1), 223);
+        ClaySlips y = Check.told("street 3;water 0 1;man 0 0;slip 0\"+-\";man 0 1;slip 1\"(l-).<+\";");
+        due("no ?, by which alone one were left", y.thief(0, 0), 0);
     }
 
     /** "(his PLACE one more, if it is above that)". */

@@ -10,6 +10,9 @@ public final class StreetBoundsTest {
     public static void main(String[] args) {
         cells();
         cellsAnew();
+        menAnew();
+        writeGoes();
+        rubOff();
         waterOfCells();
         threeMen();
         loadAtFirst();
@@ -86,7 +89,9 @@ public final class StreetBoundsTest {
     /** "n CELLS, nothing else told": what stood beyond a shorter street is gone, too. */
     private static void cellsAnew() {
         ClaySlips x = Check.after(3, "street 9;water 8 5;water 0 4;man 4 8;man 5 0;slip 0\"+<\";slip 1\"(a.)\";");
-        x.seen(4, 8);
+        for (int i = 1; i <= 4; i++) {
+            x.seen(i, 8);
+        }
         due("from 9 to 2", x.street(2), 9);
         due("from 2 to 9", x.street(9), 2);
         for (int c = 0; c < 9; c++) {
@@ -96,7 +101,9 @@ public final class StreetBoundsTest {
         due("no man 0", x.of(0, 0), BAD);
         due("number", x.count(2), 0);
         due("none undone", x.count(3), 0);
-        due("SAID's cell", x.seen(4, 1), 0);
+        for (int i = 1; i <= 4; i++) {
+            due("SAID's cell", x.seen(i, 1), 0);
+        }
         due("first man", x.man(0, 2), 0);
         check.man("first man", x, 0, 2, 0, 0, 1);
         due("his slip", x.rub(0), 0);
@@ -106,6 +113,70 @@ public final class StreetBoundsTest {
         due("refused", y.street(10), BAD);
         check.man("refused: nothing changes", y, 0, 0, 0, 1, 1);
         due("refused: nothing changes", y.count(3), 2);
+    }
+
+    /** A man who comes anew has done nothing, whatever stood in his number ahead. */
+    private static void menAnew() {
+        ClaySlips x = Check.after(1, "street 2;water 0 3;man 0 0;slip 0\"!\";");
+        x.street(2);
+        x.water(0, 3);
+        x.man(4, 0);
+        due("his slip is empty, not he by !", x.thief(0, 1), 0);
+        x.man(0, 0);
+        Check.slip(x, 0, "+>-");
+        due("he goes", x.step(), 1);
+        ClaySlips y = Check.told("street 2;water 0 3;man 0 0;slip 0\")\";");
+        y.street(2);
+        y.man(0, 0);
+        due("no fault", y.fault(0), NONE);
+        ClaySlips z = Check.after(1, "street 2;water 0 1;man 0 0;slip 0\"!\";");
+        z.street(2);
+        z.water(0, 1);
+        z.man(0, 0);
+        Check.slip(z, 0, ")+");
+        due("by the fault alone he had stopped", z.rubbed(0, 0), 2);
+    }
+
+    /** "(PLACE, LOAD stay; he has not stopped any more, if there is no FAULT)". */
+    private static void writeGoes() {
+        ClaySlips x = Check.after(2, "street 3;water 0 3;man 4 0;slip 0\"+!\";");
+        check.man("by !", x, 0, 0, 3, 2, 1);
+        due("a sign", x.write(0, 1), 3);
+        check.man("place and load stay, he goes", x, 0, 0, 3, 2, 0);
+        x.step();
+        x.step();
+        check.man("at the end", x, 0, 1, 3, 3, 1);
+        due("a sign", x.write(0, 1), 4);
+        check.man("place and load stay, he goes", x, 0, 1, 3, 3, 0);
+        x.step();
+        x.step();
+        for (char c : "(w".toCharArray()) {
+            x.write(0, Check.SIGNS.indexOf(c));
+            check.man("not by a fault", x, 0, 2, 3, 4, 1);
+        }
+        x.write(0, 8);
+        check.man("by the last sign", x, 0, 2, 3, 4, 0);
+        due("sign 14", x.write(0, 14), BAD);
+        check.man("refused, as before", x, 0, 2, 3, 4, 0);
+    }
+
+    /** "A SLIP is empty (PLACE 0): how long it was". */
+    private static void rubOff() {
+        ClaySlips x = Check.after(2, "street 3;water 0 3;man 4 0;man 0 0;slip 0\"+>)\";slip 1\"..\";");
+        due("man -1", x.rub(-1), BAD);
+        due("man 2", x.rub(2), BAD);
+        due("three", x.rub(0), 3);
+        check.man("rubbed", x, 0, 0, 0, 0, 1);
+        due("the fault is gone", x.fault(0), NONE);
+        due("none", x.rub(0), 0);
+        check.man("the other goes on", x, 1, 0, 0, 2, 0);
+        due("one goes", x.step(), 0);
+        ClaySlips y = Check.after(2, "street 3;water 0 3;man 4 0;slip 0\"+>\";");
+        due("two", y.rub(0), 2);
+        check.man("cell and load stay", y, 0, 1, 3, 0, 1);
+        Check.slip(y, 0, ".".repeat(24));
+        due("24 again", y.write(0, 4), FULL);
+        check.man("goes from its begin", y, 0, 1, 3, 0, 0);
     }
 
     /** "WATER (0 .. 20 each; 0 at first)". */

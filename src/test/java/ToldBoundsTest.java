@@ -24,6 +24,9 @@ public final class ToldBoundsTest {
         readCut();
         readOtherBytes();
         readWrongTokens();
+        readWords();
+        readOverOld();
+        readAgain();
         readNumbers();
         readSigns();
         readRefused();
@@ -422,6 +425,71 @@ public final class ToldBoundsTest {
         due("; twice", Check.reads("street 2;;man 0 0;"), -10 - 9);
     }
 
+    /** "words of letters a .. z .. (a word that is none ..)": each letter counts, and each letter more. */
+    private static void readWords() {
+        String[] items = {"street 2;", "water 0 0;", "man 0 0;", "slip 0 \".\";"};
+        for (int item = 0; item < 4; item++) {
+            String begin = item == 0 ? "" : item == 3 ? items[0] + items[2] : items[0];
+            int length = items[item].indexOf(' ');
+            for (int k = 0; k <= length; k++) {
+                for (char c = 'a'; c <= 'z'; c++) {
+                    String more = items[item].substring(0, k) + c + items[item].substring(k);
+                    due(more, Check.reads(begin + more), -10 - begin.length());
+                    String other = items[item].substring(0, k) + c + items[item].substring(Math.min(k + 1, length));
+                    due(other, Check.reads(begin + other), other.equals(items[item]) ? item == 0 ? 1 : item == 3 ? 3 : 2
+                        : -10 - begin.length());
+                }
+            }
+            due("a letter less", Check.reads(begin + items[item].substring(1)), -10 - begin.length());
+        }
+    }
+
+    /** A text typed over a longer one: what stood behind its end counts no more. */
+    private static void readOverOld() {
+        String[] texts = {"street 2", "street ", "str", "street 2;man 0 0;slip 0 \"+", "street 2;man 0 1", "street 2;man 0 ", ""};
+        String[] olds = {"street 22", "street 2;", "street 2;", "street 2;man 0 0;slip 0 \"++\";", "street 2;man 0 11;",
+            "street 2;man 0 1;", "street 2;"};
+        int[] want = {-18, -17, -10, -34, -26, -25, -10};
+        for (int k = 0; k < texts.length; k++) {
+            ClaySlips x = new ClaySlips();
+            Check.text(x, olds[k]);
+            x.clear();
+            Check.text(x, texts[k]);
+            due(texts[k] + " over " + olds[k], x.read(), want[k]);
+        }
+        ClaySlips y = new ClaySlips();
+        String full = "street 2;man 0 0;" + " ".repeat(174) + "slip 0 \".";
+        Check.text(y, full);
+        due("200 bytes, the last in a slip", y.count(4), 200);
+        due("200 bytes, the last in a slip", y.read(), -10 - 198);
+        y.clear();
+        Check.text(y, "street 2;man 0 0;" + " ".repeat(183));
+        due("200 bytes, blanks last", y.read(), 2);
+        y.clear();
+        Check.text(y, "street 2;man 0 0;" + " ".repeat(182) + "1");
+        due("200 bytes, a figure last", y.read(), -10 - 199);
+        y.clear();
+        Check.text(y, " ".repeat(192) + "street 2");
+        due("200 bytes, a number last", y.read(), -10 - 200);
+    }
+
+    /** Read again behind a refusal or a fault: nothing of it is left. */
+    private static void readAgain() {
+        ClaySlips x = new ClaySlips();
+        Check.text(x, "street 2;water 2 0;");
+        due("refused", x.read(), -1001);
+        due("refused again", x.read(), -1001);
+        x.clear();
+        Check.text(x, "street 2;x");
+        due("fault", x.read(), -19);
+        due("fault again", x.read(), -19);
+        x.clear();
+        Check.text(x, "street 2;man 0 0;");
+        due("read", x.read(), 2);
+        due("read again", x.read(), 2);
+        due("one man alone", x.count(1), 1);
+    }
+
     /** "figures (1 or 2 are one number) .. a third figure's number". */
     private static void readNumbers() {
         due("one", Check.reads("street 9;"), 1);
@@ -719,6 +787,10 @@ public final class ToldBoundsTest {
         Check.text(x, "xyz");
         due("all", x.digest(), digestOf(2, 3, 1, 1, 3, 20, 3, 4, 0, 0, 0, 1, 2, 2, 7, 3, 1, 0, 1, 0, 1, 6,
             2, 1, 0, 1, 1, 2, 5, 1, 1, 0, 1, 0));
+        ClaySlips y = Check.after(2, "street 2;water 0 20;man 4 0;slip 0\"+>\";");
+        due("a load", y.digest(), digestOf(2, 1, 2, 2, 0, 0, 0, 4, 1, 20, 2, 0, 2, 2, 1, 0, 0, 0, 0));
+        y.step();
+        due("stopped", y.digest(), digestOf(2, 1, 3, 3, 0, 0, 0, 4, 1, 20, 2, 1, 2, 2, 1, 0, 0, 0, 0));
         x.rub(0);
         due("a slip less", x.digest(), digestOf(2, 3, 1, 0, 3, 20, 3, 4, 0, 0, 0, 1, 0, 3, 1, 0, 1, 0, 1, 6,
             2, 1, 0, 1, 1, 2, 5, 1, 1, 0, 1, 0));
