@@ -133,6 +133,12 @@ public final class AskedBoundsTest {
         load.rub(1);
         Check.slip(load, 1, "(w.)" + "+" + ".".repeat(17));
         due("load by load", load.stops(), 5 * 14 + 2);
+        ClaySlips both = Check.told("street 2;water 0 5;man 4 0;man 0 0;slip 0\"+\";");
+        both.step();
+        both.rub(0);
+        Check.slip(both, 0, "(l-" + ".".repeat(11) + ")");
+        Check.slip(both, 1, ".(w+" + ".".repeat(11) + ")");
+        due("load by load, from one to the other", both.stops(), 5 * 14 + 3);
         due("place by place", Check.told("street 9;man 0 8;slip 0\"" + ".".repeat(24) + "\";").stops(), 25);
         due("nine cells for ever", Check.told("street 9;water 8 20;man 0 8;slip 0\"(a)\";").stops(), NONE);
         ClaySlips late = Check.told("street 9;water 0 20;man 0 0;man 0 8;slip 0\"(w+............)\";slip 1\"?\";");
