@@ -16,6 +16,7 @@ public final class AskedBoundsTest {
         stopsFirst();
         stopsLast();
         stopsInRounds();
+        stopsByNumber();
         askedAnew();
         againFirst();
         againLast();
@@ -145,6 +146,16 @@ public final class AskedBoundsTest {
         due("one waits for ever", late.stops(), NONE);
         late.rub(1);
         due("twenty rounds", late.stops(), 20 * 15 + 2);
+    }
+
+    /** By the STEPS' number alone all is other than before: he who went nowhere goes the next time. */
+    private static void stopsByNumber() {
+        due("lame, three steps a round", Check.told("street 9;water 8 1;man 2 0;slip 0\"(n>)\";").stops(), 50);
+        due("lame, fifteen steps a round",
+            Check.told("street 2;water 1 1;man 2 0;slip 0\"(n>" + ".".repeat(12) + ")\";").stops(), 32);
+        due("pious, always in a seventh step", Check.told("street 2;water 0 1;man 5 0;slip 0\".....(w+....)\";").stops(), NONE);
+        due("pious, never in one", Check.told("street 2;water 0 1;man 5 0;slip 0\"....(w+....)\";").stops(), 4 + 7 + 2);
+        due("pious, once in one", Check.told("street 2;water 0 1;man 5 0;slip 0\".....(w+.....)\";").stops(), 5 + 16 + 2);
     }
 
     /** Asked behind other streets, and on streets that no text told. */
