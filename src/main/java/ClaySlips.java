@@ -987,9 +987,9 @@ public final class ClaySlips {
             tokenEnd = at;
             if (at >= length) {
                 token = END;
-            } else if (isLetter(at)) {
+            } else if (isLetter(bytes[at])) {
                 takeWord();
-            } else if (isFigure(at)) {
+            } else if (isFigure(bytes[at])) {
                 takeNumber();
             } else if (bytes[at] == '"') {
                 takeQuoted();
@@ -999,16 +999,16 @@ public final class ClaySlips {
             }
         }
 
-        private boolean isLetter(int at) {
-            return at < length && bytes[at] >= 'a' && bytes[at] <= 'z';
+        private static boolean isLetter(int b) {
+            return b >= 'a' && b <= 'z';
         }
 
-        private boolean isFigure(int at) {
-            return at < length && bytes[at] >= '0' && bytes[at] <= '9';
+        private static boolean isFigure(int b) {
+            return b >= '0' && b <= '9';
         }
 
         private void takeWord() {
-            while (isLetter(tokenEnd)) {
+            while (tokenEnd < length && isLetter(bytes[tokenEnd])) {
                 tokenEnd++;
             }
             if (tokenIs("street")) {
@@ -1035,7 +1035,7 @@ public final class ClaySlips {
         }
 
         private void takeNumber() {
-            while (isFigure(tokenEnd)) {
+            while (tokenEnd < length && isFigure(bytes[tokenEnd])) {
                 tokenEnd++;
             }
             token = tokenEnd - tokenStart <= 2 ? NUMBER : WRONG;

@@ -104,6 +104,9 @@ public final class RulesTest {
         List<String> lines = all.lines().toList();
         for (int i = 0; i < lines.size(); i++) {
             String line = lines.get(i);
+            if (line.matches("\\s*(while|for) .*")) {
+                check.due("a bound in the loop's own line: " + line.strip(), line.matches(".*\\w (<|<=|>|>=) \\w.*") ? 1 : 0, 1);
+            }
             String margin = line.substring(0, line.length() - line.stripLeading().length());
             if (line.matches(" +(?!(if|for|while|switch|else|\\}|do) ?)[^(]*\\w\\([^()]*\\) \\{")) {
                 int end = i;
